@@ -14,6 +14,9 @@ public final class MolesLawn {
     // A step takes a direction off a plan, and each direction came by a call of its own: in the 512
     // calls of an object there are fewer steps than this, and each is in one tunnel or trail at most.
     private static final int STEPS = 512;
+    // A trail grows by a step for one air at most, and is as short as can be when there is new air:
+    // its first tuft, and 20 steps.
+    private static final int TRAIL = 21;
 
     private static final int[] ROW_STEP = {-1, 0, 1, 0};
     private static final int[] COLUMN_STEP = {0, 1, 0, -1};
@@ -654,7 +657,7 @@ public final class MolesLawn {
     /** A mole with its plan and its trail. */
     private static final class Mole {
         final int[] directions = new int[PLAN];
-        final int[] trail = new int[STEPS];
+        final int[] trail = new int[TRAIL];
         int planned;
         int trailLength = 1;
         int air;
@@ -708,7 +711,7 @@ public final class MolesLawn {
 
         void go(int tuft) {
             steps++;
-            if (trailLength < STEPS) {
+            if (trailLength < TRAIL) {
                 trailLength++;
             }
             trail[trailLength - 1] = tuft;
@@ -869,7 +872,6 @@ public final class MolesLawn {
             mole.planned = 0;
             mole.air = fullAir;
             mole.steps = 0;
-            mole.lost = false;
             moleCount++;
             return moleCount - 1;
         }
