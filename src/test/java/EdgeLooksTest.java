@@ -608,6 +608,15 @@ public final class EdgeLooksTest extends Edges {
         x.mole(63);
         due("and one by itself", x.count(12), 3);
         due("480 tunnels between two", crowd().count(12), 1);
+        // Two tunnels between two mounds, the first of which goes to the tuft 0, or from there.
+        MolesLawn z = new MolesLawn();
+        z.mole(0);
+        z.mole(2);
+        walk(z, 1, WEST, WEST);
+        walk(z, 1, EAST, EAST);
+        walk(z, 0, EAST, EAST);
+        dueCount(z, 4, 3);
+        dueCount(z, 12, 1);
         // A mole on the way with its trail joins nothing yet.
         MolesLawn y = new MolesLawn();
         y.mole(0);

@@ -237,18 +237,18 @@ public final class EdgeTermsTest extends Edges {
         due("where the shortest trail ends", x.moleOf(0, 0), 0);
         due("its tufts", x.moleOf(0, 5), 1);
         for (int i = 0; i < 20; i++) {
-            x.plan(0, i < 7 ? EAST : i % 2 == 1 ? SOUTH : NORTH);
+            x.plan(0, i < 7 ? EAST : i == 7 || i == 19 ? SOUTH : i % 2 == 0 ? WEST : EAST);
         }
         x.pass(19);
-        dueMole(x, 0, 7, 1, 1, SOUTH, 0, 20, 19);
+        dueMole(x, 0, 14, 1, 1, SOUTH, 0, 20, 19);
         int moundsOnIt = 0;
         for (int t = 1; t < 64; t++) {
             moundsOnIt += x.tuft(t, 0);
         }
         due("mounds on the longest trail but at its first tuft", moundsOnIt, 0);
         due("a mound by the 20th step", x.pass(1), 1);
-        dueTunnels(x, row(0, 1, 2, 3, 4, 5, 6, 7, 15));
-        dueMole(x, 0, 15, 20, 0, NONE, 15, 1, 20);
+        dueTunnels(x, row(0, 1, 2, 3, 4, 5, 6, 7, 15, 14, 15, 14, 15, 14, 15, 14, 15, 14, 15, 14, 22));
+        dueMole(x, 0, 22, 20, 0, NONE, 22, 1, 20);
     }
 
     private static void hollow() {
@@ -325,6 +325,11 @@ public final class EdgeTermsTest extends Edges {
         dueTunnels(z, row(0, 1, 2), row(48, 49, 50), row(2, 1, 0));
         z.mole(1);
         dueTunnels(z, row(0, 1), row(1, 2), row(48, 49, 50), row(2, 1), row(1, 0));
+        // Where the next tunnel has the tuft, too, close behind.
+        MolesLawn w = rowOfMounds(1);
+        walk(w, 0, WEST, WEST);
+        w.mole(1);
+        dueTunnels(w, row(0, 1), row(1, 2), row(2, 1), row(1, 0));
         // At an end of tunnels there is a mound already: nothing is split.
         z.mole(0);
         dueCount(z, 4, 5);
@@ -517,20 +522,23 @@ public final class EdgeTermsTest extends Edges {
 
     private static void waits() {
         MolesLawn x = new MolesLawn();
-        x.trap(0, 0);
+        x.trap(0, 20);
         x.trap(1, 1);
         x.trap(2, 2);
+        x.trap(3, 0);
         x.trap(63, 20);
         x.pass(1);
-        dueTuft(x, 0, 2, 0);
+        dueTuft(x, 0, 2, 19);
         dueTuft(x, 1, 2, 0);
         dueTuft(x, 2, 2, 1);
+        dueTuft(x, 3, 2, 0);
         dueTuft(x, 63, 2, 19);
-        dueTuft(x, 3, 2, NONE);
+        dueTuft(x, 4, 2, NONE);
         x.pass(30);
         dueTuft(x, 0, 2, 0);
+        dueTuft(x, 3, 2, 0);
         dueTuft(x, 63, 2, 0);
-        dueCount(x, 7, 4);
+        dueCount(x, 7, 5);
         // First the waits: a trap with the wait 1 is set when the moles go, one with the wait 2 is not.
         MolesLawn y = new MolesLawn();
         y.mole(0);
@@ -1017,6 +1025,20 @@ public final class EdgeTermsTest extends Edges {
         dueTuft(y, 8, 6, 0);
         dueTuft(y, 1, 6, 1);
         dueTuft(y, 9, 6, 1);
+        // With one that is known to be hollow: the number 3, and two are left; or the number 2, and two are left.
+        for (int number = 2; number <= 3; number++) {
+            MolesLawn w = new MolesLawn();
+            w.dig(1);
+            w.mole(1);
+            w.mole(9);
+            if (number == 3) {
+                w.mole(8);
+            }
+            w.dig(0);
+            dueTuft(w, 0, 4, number);
+            dueTuft(w, 8, 6, number == 3 ? 1 : NONE);
+            dueTuft(w, 9, 6, number == 3 ? 1 : NONE);
+        }
         // The number 8: all beside it.
         MolesLawn z = new MolesLawn();
         z.set(20);
@@ -1206,7 +1228,10 @@ public final class EdgeTermsTest extends Edges {
         undoable(Edges::busy, "root(11, 9)", x -> x.root(11, 9));
         undoable(Edges::busy, "trap(0, 0)", x -> x.trap(0, 0));
         undoable(Edges::busy, "dig(41)", x -> x.dig(41));
+        undoable(Edges::busy, "dig(2), where two fall in", x -> x.dig(2));
         undoable(Edges::busy, "rake(2)", x -> x.rake(2));
+        undoable(Edges::busy, "rake(0), where one falls in", x -> x.rake(0));
+        undoable(EdgeTermsTest::muchToCome, "pass(4), with all that beats bring", x -> x.pass(4));
         undoable(Edges::busy, "set(2)", x -> x.set(2));
         undoable(Edges::busy, "restore()", x -> x.restore());
         // Those that are not.
@@ -1215,6 +1240,25 @@ public final class EdgeTermsTest extends Edges {
         notUndoable(Edges::busy, "keep()", MolesLawn::keep);
         // Not what an exception ends.
         changesNothing(Edges::busy, "mole(64)", x -> x.mole(64));
+    }
+
+    // One gnaws, one is caught, one pushes up.
+    private static MolesLawn muchToCome() {
+        MolesLawn x = new MolesLawn();
+        x.set(4);
+        for (int t = 0; t < 48; t += 16) {
+            x.mole(t);
+        }
+        x.root(1, 2);
+        type(x, "0:eee;1:eee;2:eeee");
+        x.plans();
+        x.keep();
+        while (x.count(14) > 0) {
+            x.undo();
+        }
+        x.restore();
+        x.trap(18, 0);
+        return x;
     }
 
     private static MolesLawn dugTwice() {
@@ -1243,6 +1287,7 @@ public final class EdgeTermsTest extends Edges {
         for (int i = 1; i <= 9; i++) {
             x.root(i, 1);
         }
+        x.keep();
         for (int i = 0; i < 6; i++) {
             x.undo();
         }

@@ -557,7 +557,24 @@ public final class EdgeWouldBeTest extends Edges {
         dueDigest("a mound in the hundredth beat", () -> farMound(8), "");
         dueDigest("a mound in the 101st beat", () -> farMound(9), "");
         dueDigest("opened tufts", EdgeWouldBeTest::openedRow, "");
+        for (int beat = 4; beat <= 6; beat++) {
+            int which = beat;
+            dueDigest("a mound in the beat " + beat, () -> moundInBeat(which), "");
+        }
         due("the list of the empty lawn", listOf(Edges::empty, "").size(), 15 + 576 + 64 + 6 + 1);
+    }
+
+    // The lowest tuft with a mound is 9; one of the others is joined with it.
+    private static MolesLawn moundInBeat(int beat) {
+        MolesLawn x = new MolesLawn();
+        x.set(beat);
+        x.mole(11);
+        x.mole(9);
+        x.mole(62);
+        walk(x, 0, WEST, WEST);
+        type(x, "0:sssssss");
+        x.plans();
+        return x;
     }
 
     private static MolesLawn openedRow() {

@@ -121,8 +121,9 @@ public final class PromiseTest {
             due("count(" + what + ")", x.count(what), what == 13 ? 6 : 0);
         }
         for (int t = 0; t < 64; t++) {
+            MolesLawn y = new MolesLawn();
             for (int what = 0; what <= 8; what++) {
-                due("tuft(" + t + ", " + what + ")", x.tuft(t, what), what == 2 || what == 6 ? -1 : 0);
+                due("tuft(" + t + ", " + what + ")", y.tuft(t, what), what == 2 || what == 6 ? -1 : 0);
             }
         }
         due("firstError()", x.firstError(), 0);
