@@ -767,8 +767,10 @@ public final class MolesLawn {
         }
 
         void copyFrom(Lawn other) {
-            System.arraycopy(other.mounds, 0, mounds, 0, TUFTS);
-            System.arraycopy(other.opened, 0, opened, 0, TUFTS);
+            for (int t = 0; t < TUFTS; t++) {
+                mounds[t] = other.mounds[t];
+                opened[t] = other.opened[t];
+            }
             System.arraycopy(other.roots, 0, roots, 0, TUFTS);
             System.arraycopy(other.traps, 0, traps, 0, TUFTS);
             tunnels.copyFrom(other.tunnels);
